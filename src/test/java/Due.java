@@ -19,6 +19,10 @@ final class Due {
         is(what, so ? 1 : 0, 1);
     }
 
+    boolean isAllRight() {
+        return wrong == 0;
+    }
+
     /** Exit code 1, if an answer was wrong, or none was looked at. */
     void end() {
         System.out.println(checks + " answers, " + wrong + " of them wrong");

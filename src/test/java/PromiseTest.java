@@ -205,6 +205,8 @@ public final class PromiseTest {
         found(x.copy(0, 0, 1, 0, 3), BEYOND);
         found(x.copy(1, 0, 0, 0, 3), BEYOND);
         found(x.copy(0, -1, 1, 0, 1), BEYOND);
+        found(x.copy(0, 3, 1, 0, 2), BEYOND);
+        found(x.copy(0, 0, 1, 1, 2), BEYOND);
         found(x.copy(0, 0, 1, -1, 1), BEYOND);
         found(x.copy(0, Integer.MAX_VALUE, 1, 0, Integer.MAX_VALUE), BEYOND);
         found(x.copy(0, 0, 1, 0, Integer.MAX_VALUE), BEYOND);
@@ -417,6 +419,9 @@ public final class PromiseTest {
         due(x.mark(2, 5), 0);
         due(x.mark(5, 4), 15);
         due(x.mark(0, 2), 4);
+        read("p400 b300");
+        due(x.mark(1, 5), 1);
+        due(x.count(5), 2);
     }
 
     private void shelve() {
@@ -610,6 +615,23 @@ public final class PromiseTest {
         due(x.on(0), 2);
         due(x.digest(), there);
         found(x.on(2), NOTHING);
+        // what answered what ahead of late TAKINGS is kept, too
+        x.undo(0);
+        x.take(1, 1);
+        for (int n = 1; n < 40; n++) {
+            x.take(0, 0);
+            x.bring(0);
+        }
+        x.keep(2);
+        x.undo(0);
+        for (int n = 0; n < 40; n++) {
+            x.take(5, 4);
+            x.bring(5);
+        }
+        due(x.on(2), 40);
+        due(x.undo(39), 1);
+        due(x.question(1, 5), 1, 1);
+        due(x.count(3), 6);
     }
 
     private void match() {
@@ -721,6 +743,11 @@ public final class PromiseTest {
         read("n300 n400 n500 q0351 q0451");
         due(x.fullest(), 4, 0);
         due(x.test(), 0, 2);
+        // 0 has CARD 1 or 2, 1 has CARD 0: the first pair that is not in all is 0 with 1
+        read("n300 n500 n500 q0551 q0331");
+        due(x.test(), 1, 1);
+        read("n900 n500 n500 q0001 q0991 q0551");
+        due(x.test(), 21, 1);
     }
 
     private void odds() {
@@ -781,6 +808,10 @@ public final class PromiseTest {
         due(x.worlds(), 120);
         read("n000 q0091 q0091 q0091 q0091 q0091 q0091 q0091");
         due(x.worlds(), 10000000);
+        read("n400 n600 q0461 q0461 q0461");
+        x.take(0, 0);
+        x.take(1, 1);
+        due(x.worlds(), 3);
     }
 
     private void never() {
@@ -835,6 +866,7 @@ public final class PromiseTest {
         due(x.finds(9), 1, 0);
         due(x.finds(127), NONE, 0);
         due(x.finds(64), 0, NONE);
+        due(x.finds(1), 0, NONE);
         due(x.finds(65), NONE, NONE);
         due(x.finds(10), 1, 6);
         // two QUESTIONS part four CARDS only by halves: the first one of them is the second
@@ -944,6 +976,11 @@ public final class PromiseTest {
         due(x.order(), 2);
         x.shelve(3, 2);
         due(x.order(), 1);
+        read("y000 p010 v020 t030");
+        due(x.order(), 0);
+        // the only SHELF without two NUMBERS costs two
+        read("n000 n000 n010 n020 n030 y000");
+        due(x.order(), 2);
         // a PLACE and a BEHIND are not of one KIND here
         read("p000 b000");
         due(x.order(), 1);
@@ -1102,5 +1139,28 @@ public final class PromiseTest {
         }
         due(x.digest(), h);
         due(x.asked(), 0);
+        read("n500 n600 q0091 q0091");
+        x.take(1, 0);
+        x.take(0, 1);
+        x.bring(0);
+        long other = x.digest();
+        x.undo(1);
+        x.take(0, 1);
+        due(x.digest() == other ? 1 : 0, 0);
+        x.bring(0);
+        due(x.digest(), other);
+        h = 17;
+        int[] now = {2, 2, 2, 1, 1, 0, 1, 2, 0, 0, 5, 5, 0, 0, 1, 0, 6, 6, 0, 0, -9,
+            0, 0, 9, 1, -9, -9, 0, 0, 9, 1, -9, 0, 10, 1, -1, -1, -1, -1, 1, 5, -1, -1, -1, -1, 21};
+        for (int v : now) {
+            h = 31 * h + v;
+        }
+        for (char sign : "n500 n600 q0091 q0091".toCharArray()) {
+            h = 31 * h + sign;
+        }
+        for (int v : new int[] {-1, -1, 1, -56}) {
+            h = 31 * h + v;
+        }
+        due(x.digest(), h);
     }
 }

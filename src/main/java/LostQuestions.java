@@ -1155,11 +1155,11 @@ public final class LostQuestions {
             if (Integer.bitCount(present) > SHELVES) {
                 return NONE;
             }
-            return cards == 0 ? 0 : cards - mostStaying(0, present, present);
+            return cards == 0 ? 0 : cards - mostStaying(this, 0, present, present);
         }
 
         /** From a SHELF on, each for one KIND of those present; KINDS that lack one still must come by it. */
-        private int mostStaying(int shelf, int present, int lacking) {
+        private static int mostStaying(Library library, int shelf, int present, int lacking) {
             if (Integer.bitCount(lacking) > SHELVES - shelf) {
                 return MISSING;
             }
@@ -1169,9 +1169,9 @@ public final class LostQuestions {
             int most = MISSING;
             for (int kind = 0; kind < KINDS; kind++) {
                 if ((present & 1 << kind) != 0) {
-                    int others = mostStaying(shelf + 1, present, lacking & ~(1 << kind));
+                    int others = mostStaying(library, shelf + 1, present, lacking & ~(1 << kind));
                     if (others != MISSING) {
-                        most = Math.max(most, others + cardsOfOn(kind, shelf));
+                        most = Math.max(most, others + library.cardsOfOn(kind, shelf));
                     }
                 }
             }

@@ -44,6 +44,8 @@ public final class OracleTest {
                 read(someLibrary(random.nextInt(8) == 0));
             } else if (lot < 4) {
                 answers();
+            } else if (lot < 6) {
+                takeAndBring(someBelow(7));
             } else {
                 call(random.nextInt(49));
             }
@@ -262,7 +264,8 @@ public final class OracleTest {
                 same("bring(" + a + ")", x.bring(a), y.bring(a));
                 break;
             case 19: {
-                int n = some(41);
+                // mostly late ones, so that TAKINGS come near to forty at times
+                int n = someBelow(4) == 0 ? some(41) : x.count(2) - someBelow(3);
                 same("undo(" + n + ")", x.undo(n), y.undo(n));
                 break;
             }
@@ -311,6 +314,14 @@ public final class OracleTest {
         for (int n = 0; n < 6; n++) {
             int c = some(7);
             same("take(" + q + ", " + c + ")", x.take(q, c), y.take(q, c));
+        }
+    }
+
+    private void takeAndBring(int q) {
+        for (int n = 0; n < 8; n++) {
+            int c = someBelow(7);
+            same("take(" + q + ", " + c + ")", x.take(q, c), y.take(q, c));
+            same("bring(" + q + ")", x.bring(q), y.bring(q));
         }
     }
 

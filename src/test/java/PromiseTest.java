@@ -625,7 +625,7 @@ public final class PromiseTest {
         x.keep(2);
         x.undo(0);
         for (int n = 0; n < 40; n++) {
-            x.take(5, 4);
+            due(x.take(5, 6), 2);
             x.bring(5);
         }
         due(x.on(2), 40);

@@ -1,15 +1,12 @@
 /** Each promise of the document by itself: ordinary inputs, the edges that it names, wrong inputs. */
-public final class PromiseTest {
-    private static final int BAD = -1, FULL = -2, FINDING = -3, STATE = -4, NONE = -9;
-    private static final int NOTHING = 1, BEYOND = 2, UNLIKE = 3, NOUGHT = 4, SIZE = 5;
-    /** Seven CARDS of all KINDS (MEANING 7 1 3 0 5 0 4), seven QUESTIONS. */
-    private static final String ALL = "n702 y609 p314 v905 t837 b911 n420 q0393 q1017 q2052 q5004 q4091 q0489 q3005";
-
-    private final Due due = new Due();
-    private LostQuestions x = new LostQuestions();
+public final class PromiseTest extends Bench {
+    private PromiseTest(Due due) {
+        super(due);
+    }
 
     public static void main(String[] args) {
-        PromiseTest test = new PromiseTest();
+        Due due = new Due();
+        PromiseTest test = new PromiseTest(due);
         test.run(1, test::newObject);
         test.run(2, test::row);
         test.run(3, test::lay);
@@ -59,64 +56,12 @@ public final class PromiseTest {
         test.run(47, test::finding);
         test.run(48, test::findings);
         test.run(49, test::digest);
-        test.due.end();
+        due.end();
     }
 
-    private int promise = 0;
-    private int step = 0;
-
-    private void run(int number, Runnable checks) {
-        promise = number;
-        step = 0;
-        x = new LostQuestions();
+    private void run(int promise, Runnable checks) {
+        begin("promise " + promise);
         checks.run();
-    }
-
-    private void due(long got, long want) {
-        step++;
-        due.is("promise " + promise + ", answer " + step, got, want);
-    }
-
-    /** An answer, and what asked() tells behind it. */
-    private void due(long got, long want, long asked) {
-        due(got, want);
-        due(x.asked(), asked);
-    }
-
-    private void found(long got, int finding) {
-        due(got, FINDING);
-        due(x.finding(), finding);
-    }
-
-    private void write(int t, String signs) {
-        x.text(t, signs.length());
-        for (int i = 0; i < signs.length(); i++) {
-            x.put(t, i, signs.charAt(i));
-        }
-    }
-
-    private void read(String signs) {
-        write(0, signs);
-        x.library(0);
-    }
-
-    private void lays(int r, int... places) {
-        x.row(r, places.length);
-        for (int i = 0; i < places.length; i++) {
-            x.lay(r, i, places[i]);
-        }
-    }
-
-    private void dueRow(int r, int... places) {
-        for (int i = 0; i < places.length; i++) {
-            due(x.at(r, i), 1, places[i]);
-        }
-        found(x.at(r, places.length), BEYOND);
-    }
-
-    private void dueFault(String signs, int place) {
-        write(3, signs);
-        due(x.fault(3), place);
     }
 
     private void newObject() {
@@ -147,7 +92,7 @@ public final class PromiseTest {
         due(x.row(-1, 1), BAD);
         due(x.row(6, -1), BAD);
         found(x.row(0, -1), SIZE);
-        found(x.row(0, Integer.MIN_VALUE), SIZE);
+        found(x.row(0, LEAST), SIZE);
         dueRow(0, 0, 0, 0);
     }
 
@@ -158,11 +103,11 @@ public final class PromiseTest {
         x.row(1, 2);
         due(x.lay(1, 1, 7), 1, 0);
         due(x.lay(1, 1, -8), 1, 7);
-        due(x.lay(1, 1, Integer.MAX_VALUE), 1, -8);
+        due(x.lay(1, 1, MOST), 1, -8);
         found(x.lay(1, 2, 1), BEYOND);
         found(x.lay(1, -1, 1), BEYOND);
         due(x.asked(), -8);
-        dueRow(1, 0, Integer.MAX_VALUE);
+        dueRow(1, 0, MOST);
     }
 
     private void at() {
@@ -174,7 +119,7 @@ public final class PromiseTest {
         due(x.at(2, 1), 1, 6);
         found(x.at(2, 2), BEYOND);
         found(x.at(2, -1), BEYOND);
-        found(x.at(2, Integer.MAX_VALUE), BEYOND);
+        found(x.at(2, MOST), BEYOND);
         due(x.asked(), 6);
     }
 
@@ -208,8 +153,8 @@ public final class PromiseTest {
         found(x.copy(0, 3, 1, 0, 2), BEYOND);
         found(x.copy(0, 0, 1, 1, 2), BEYOND);
         found(x.copy(0, 0, 1, -1, 1), BEYOND);
-        found(x.copy(0, Integer.MAX_VALUE, 1, 0, Integer.MAX_VALUE), BEYOND);
-        found(x.copy(0, 0, 1, 0, Integer.MAX_VALUE), BEYOND);
+        found(x.copy(0, MOST, 1, 0, MOST), BEYOND);
+        found(x.copy(0, 0, 1, 0, MOST), BEYOND);
         found(x.copy(0, 0, 5, 0, -1), SIZE);
         found(x.copy(0, 99, 5, 0, 1), NOTHING);
         found(x.copy(5, 99, 0, 0, 1), NOTHING);
@@ -231,10 +176,10 @@ public final class PromiseTest {
         due(x.mean(0), 1, 1);
         lays(0, -1, -2, -2);
         due(x.mean(0), 1, -1);
-        lays(0, Integer.MAX_VALUE, Integer.MAX_VALUE);
-        due(x.mean(0), 1, Integer.MAX_VALUE);
-        lays(0, Integer.MIN_VALUE, Integer.MIN_VALUE, Integer.MIN_VALUE);
-        due(x.mean(0), 1, Integer.MIN_VALUE);
+        lays(0, MOST, MOST);
+        due(x.mean(0), 1, MOST);
+        lays(0, LEAST, LEAST, LEAST);
+        due(x.mean(0), 1, LEAST);
     }
 
     private void text() {
@@ -862,7 +807,7 @@ public final class PromiseTest {
         due(x.finds(128), BAD);
         due(x.finds(129), BAD);
         due(x.finds(-1), BAD);
-        due(x.finds(Integer.MIN_VALUE), BAD);
+        due(x.finds(LEAST), BAD);
         due(x.finds(9), 1, 0);
         due(x.finds(127), NONE, 0);
         due(x.finds(64), 0, NONE);
@@ -1006,7 +951,7 @@ public final class PromiseTest {
         due(x.lots(-1, 1), BAD);
         due(x.lots(1, 0), BAD);
         due(x.lots(1, -1), BAD);
-        due(x.lots(1, Integer.MAX_VALUE), BAD);
+        due(x.lots(1, MOST), BAD);
         due(x.lots(1, 1), STATE);
         read("n500");
         due(x.lots(20, 2147483646), STATE);

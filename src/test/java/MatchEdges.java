@@ -549,4 +549,13 @@ final class MatchEdges extends Bench {
         x.take(0, 0);
         due(x.never(), 0);
     }
+
+    void p33_answeredOrNot() {
+        read("n500 q0391 q0551");
+        x.take(0, 0);
+        x.truth(0, 4);
+        due(x.never(), 1);
+        x.truth(0, 5);
+        due(x.never(), 0);
+    }
 }

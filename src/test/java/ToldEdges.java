@@ -309,15 +309,28 @@ final class ToldEdges extends Bench {
     }
 
     void p49_takingsWithThoseBroughtBack() {
-        read("n512 n600 q0567 q0661");
+        read("n600 n512 q0567 q0661");
         x.text(0, 0);
-        x.take(0, 0);
-        x.take(1, 1);
+        x.take(0, 1);
+        x.take(1, 0);
         x.bring(0);
         x.truth(1, 0);
-        due(x.digest(), digestOf(2, 2, 2, 1, 1, 0, 0, 1, 0, 0, 5, 5, 1, 2, NONE, 0, 6, 6, 0, 0, 1,
-            0, 5, 6, 7, NONE, NONE, 0, 6, 6, 1, 0, 1, 0, 11, -1, -1, -1,
+        due(x.digest(), digestOf(2, 2, 2, 1, 1, 0, 0, 1, 0, 0, 6, 6, 0, 0, 1, 0, 5, 5, 1, 2, NONE,
+            0, 5, 6, 7, NONE, NONE, 0, 6, 6, 1, 0, 0, 1, 10, -1, -1, -1,
             -1, -1, -1, -1, -1, -1, 0, -1, -1, -1));
+    }
+
+    void p49_takingsOfKeptLibraries() {
+        read("n512 q0567");
+        x.text(0, 0);
+        x.keep(2);
+        x.take(0, 0);
+        x.bring(0);
+        x.take(0, 0);
+        x.keep(0);
+        x.undo(0);
+        due(x.digest(), digestOf(1, 1, 0, 1, 1, 0, 0, 1, 2, 0, 5, 5, 1, 2, NONE, 0, 5, 6, 7, NONE, NONE,
+            2, -1, 0, -1, -1, -1, -1, -1, -1, 0, -1, -1, -1));
     }
 
     void p49_fortyPlacesAndEightySignsWrapAround() {

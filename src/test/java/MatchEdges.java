@@ -207,6 +207,10 @@ final class MatchEdges extends Bench {
         dueRow(0, 1, 0);
         due(x.match(0), 2);
         due(x.fullest(), 1, 2);
+        read("n500 q0661");
+        due(x.match(0), 0);
+        due(x.wished(0), 0);
+        dueRow(0, NONE);
     }
 
     void p27_withoutALibraryThereIsOne() {

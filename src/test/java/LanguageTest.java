@@ -26,7 +26,7 @@ public final class LanguageTest {
         "long upper()", "long lower()", "int count(int)", "int finding()", "int findings(int)", "long digest()"};
     private static final String[] CONSTANTS = {"BAD", "FULL", "FINDING", "STATE", "SPENT", "NONE"};
     private static final String[] WORDS_RULED_OUT = {"throw", "throws", "try", "catch", "synchronized", "assert",
-        "protected", "volatile", "native", "static\\s*\\{", "->", "::", "Exact", "System\\.(?!arraycopy)",
+        "protected", "volatile", "native", "static\\s*\\{", "->", "::", "\\w*Exact\\b", "System\\.(?!arraycopy)",
         "\\bThread", "Random", "equals", "hashCode", "toString", "package"};
 
     private final Due due = new Due();
